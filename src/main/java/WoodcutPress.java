@@ -912,17 +912,17 @@ public final class WoodcutPress {
             return letter == 'c' ? COLOUR : LINE;
         }
 
-        /** Answers a number of the range, or NO_NUMBER, and the error position is told then. */
+        /** Answers the number of the range that stands here, or NO_NUMBER, and the error position is told then. */
         private int readNumber(int least, int greatest) {
-            skipSpaces();
             int start = at;
+            boolean zeroFirst = here() == '0';
             int number = 0;
             while (at < length && isDigit(here())) {
                 // A number that is too great stays so, without running over.
                 number = Math.min(number * 10 + here() - '0', LONGEST_TEXT);
                 at++;
             }
-            boolean zeroAhead = at - start > 1 && text[start] == '0';
+            boolean zeroAhead = zeroFirst && at - start > 1;
             if (at == start || zeroAhead || !isWithin(number, least, greatest)) {
                 failAt(start);
                 return NO_NUMBER;

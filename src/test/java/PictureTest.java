@@ -169,6 +169,12 @@ public final class PictureTest {
 
   private static void promise05PlugRefused() {
     WoodcutPress press = Checks.framed(1);
+    press.set(3, 3);
+    press.print(1);
+    CHECKS.same("wear as great as the hardness", press.cell(3, 3, 3), 3);
+    CHECKS.same("is not worn", press.cell(3, 3, 4), 0);
+    CHECKS.refused("plug of it", press, Checks.ILLEGAL, () -> press.plug(3, 3));
+    press.cut(1);
     press.set(3, 2);
     CHECKS.refused("plug of a cell that is not worn", press, Checks.ILLEGAL, () -> press.plug(3, 3));
     press.print(1);

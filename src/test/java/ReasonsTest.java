@@ -173,6 +173,18 @@ public final class ReasonsTest {
     CHECKS.same("px plus 4 then, colour anywhere in the frame", press.bestPins(0), 0);
     CHECKS.same("py plus 4 then", press.bestPins(1), 5);
     CHECKS.invalid("what", press, new int[] {-1, 3, Integer.MIN_VALUE, Integer.MAX_VALUE}, press::bestPins);
+    // The farthest pins of either side.
+    WoodcutPress far = new WoodcutPress();
+    far.paint(9, 9, 1, 1, 1);
+    far.carve(1, 5, 5, 1);
+    CHECKS.same("px plus 4, far", far.bestPins(0), 8);
+    CHECKS.same("py plus 4, far", far.bestPins(1), 8);
+    CHECKS.same("gaps and spills, far", far.bestPins(2), 0);
+    far.paint(9, 9, 1, 1, 0);
+    far.paint(1, 1, 1, 1, 1);
+    CHECKS.same("px plus 4, far to the left", far.bestPins(0), 0);
+    CHECKS.same("py plus 4, far up", far.bestPins(1), 0);
+    CHECKS.same("gaps and spills, far", far.bestPins(2), 0);
     // Spills count as gaps do.
     WoodcutPress spilt = new WoodcutPress();
     spilt.paint(5, 5, 1, 1, 1);
@@ -233,6 +245,28 @@ public final class ReasonsTest {
     CHECKS.same("a full block at hardness 999", press.printsLeft(), 334);
     press.set(3, 998);
     CHECKS.same("a full block at hardness 998", press.printsLeft(), 333);
+    WoodcutPress corner = new WoodcutPress();
+    corner.carve(0, 0, 0, 1);
+    CHECKS.same("a lone cell in the corner", corner.printsLeft(), 9);
+    WoodcutPress far = new WoodcutPress();
+    far.carve(0, 15, 11, 1);
+    CHECKS.same("a lone cell in the far corner", far.printsLeft(), 9);
+    // All but the middle of five by five cells are carved anew: it wears by 1 alone, and is worn first.
+    WoodcutPress middle = new WoodcutPress();
+    middle.paint(2, 2, 5, 5, 2);
+    middle.cut(0);
+    middle.set(3, 12);
+    middle.print(4);
+    middle.set(3, 6);
+    for (int i = 0; i < 25; i++) {
+      if (i != 12) {
+        middle.carve(0, 2 + i % 5, 2 + i / 5, 1);
+      }
+    }
+    CHECKS.same("its wear", middle.cell(4, 4, 3), 4);
+    CHECKS.same("a corner is worn as soon", middle.printsLeft(), 3);
+    middle.set(3, 4);
+    CHECKS.same("the middle first", middle.printsLeft(), 1);
     for (int i = 0; i < 49; i++) {
       press.cut(0);
       press.print(100);

@@ -29,6 +29,26 @@ public final class SnapshotTest {
     press.undo();
     CHECKS.same("a take undone", press.count(17), 1);
     CHECKS.refused("the slot is empty again", press, Checks.ILLEGAL, () -> press.restore(0));
+    press.undo();
+    press.undo();
+    press.undo();
+    CHECKS.same("all takes undone", press.count(17), 0);
+    // An undo brings back what was in the slot.
+    for (int slot = 0; slot <= 1; slot++) {
+      int one = slot;
+      WoodcutPress again = new WoodcutPress();
+      again.paint(0, 0, 3, 1, 1);
+      again.take(slot);
+      again.paint(0, 0, 9, 1, 2);
+      again.take(slot);
+      CHECKS.same("undo", again.undo(), 3);
+      CHECKS.same("the older snapshot", again.restore(slot), 3);
+      CHECKS.same("undo of the restore", again.undo(), 3);
+      CHECKS.same("the picture", again.count(12), 9);
+      CHECKS.same("undo", again.undo(), 2);
+      CHECKS.same("undo", again.undo(), 1);
+      CHECKS.refused("an empty slot again", again, Checks.ILLEGAL, () -> again.restore(one));
+    }
     WoodcutPress empty = new WoodcutPress();
     CHECKS.same("take of a white picture", empty.take(0), 0);
   }

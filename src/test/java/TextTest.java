@@ -68,7 +68,9 @@ public final class TextTest {
     CHECKS.same("the later one counts", press.count(12), 0);
     CHECKS.same("the later one counts", press.count(11), 8);
     press.paint(0, 5, 1, 1, 2);
+    press.paint(0, 4, 3, 1, 1);
     CHECKS.same("what was read before is forgotten", Checks.load(press, "6:16c;"), 1);
+    CHECKS.same("the painted colour stays", press.count(11), 3 + 7 + 16);
     CHECKS.same("the painted line stays", press.count(12), 1);
     CHECKS.same("an error behind a good row", Checks.load(press, "5:16l;6:16l;7:"), -2014);
     CHECKS.same("nothing changed", press.count(12), 1);
@@ -79,6 +81,7 @@ public final class TextTest {
     press.append(';');
     CHECKS.same("it goes on", press.load(), 3);
     CHECKS.same("all rows are read", press.count(12), 48);
+    CHECKS.same("the other rows stay", press.count(11), 3);
   }
 
   private static void promise14LoadLongest() {
