@@ -1,8 +1,8 @@
-import java.util.ArrayList;
 import java.util.List;
 import java.util.function.IntSupplier;
+import java.util.function.IntUnaryOperator;
 
-/** What the tests share: comparing answers, looking at all that a press tells, and small helpers. */
+/** What the tests share: comparing answers, refused calls, and presses to begin with. */
 final class Checks {
   static final int INVALID = -1001;
   static final int ILLEGAL = -1002;
@@ -30,15 +30,15 @@ final class Checks {
     same(what, is ? 1 : 0, 1);
   }
 
-  /** The call answers the code, and all that the press tells stays. */
-  void refused(String what, WoodcutPress press, int code, IntSupplier call) {
-    List<Integer> before = seen(press);
+  /** The call answers the code and changes nothing, neither in the text nor in the history. */
+  void refused(String what, Press press, int code, IntSupplier call) {
+    List<Integer> before = Looks.whole(press);
     same(what, call.getAsInt(), code);
-    holds(what + " changes nothing", before.equals(seen(press)));
+    holds(what + " changes nothing", before.equals(Looks.whole(press)));
   }
 
   /** Like refused, for each of the values that one argument may not have. */
-  void invalid(String what, WoodcutPress press, int[] values, java.util.function.IntUnaryOperator call) {
+  void invalid(String what, Press press, int[] values, IntUnaryOperator call) {
     for (int value : values) {
       refused(what + " with " + value, press, INVALID, () -> call.applyAsInt(value));
     }
@@ -52,54 +52,46 @@ final class Checks {
     }
   }
 
-  /** All that the calls that look tell of a press. */
-  static List<Integer> seen(WoodcutPress press) {
-    List<Integer> all = new ArrayList<>();
-    for (int what = 0; what <= 19; what++) {
-      all.add(press.count(what));
-    }
-    for (int y = 0; y < 12; y++) {
-      for (int x = 0; x < 16; x++) {
-        for (int what = 0; what <= 4; what++) {
-          all.add(press.cell(x, y, what));
-        }
-      }
-    }
-    for (int back = 0; back <= 12; back++) {
-      for (int what = 0; what <= 5; what++) {
-        all.add(press.proof(back, what));
-      }
-    }
-    return all;
-  }
-
-  /** Like seen, without the states in the history and the length of the text, which undo() leaves. */
-  static List<Integer> seenState(WoodcutPress press) {
-    List<Integer> all = seen(press);
-    all.remove(19);
-    all.remove(18);
-    return all;
-  }
-
-  static void write(WoodcutPress press, String text) {
+  static void write(Press press, String text) {
     for (int i = 0; i < text.length(); i++) {
       press.append(text.charAt(i));
     }
   }
 
   /** Loads a text in place of the one that is there. */
-  static int load(WoodcutPress press, String text) {
+  static int load(Press press, String text) {
     press.clearText();
     write(press, text);
     return press.load();
   }
 
+  /** What a new press answers that loads a text. */
+  static int loadAnew(String text) {
+    Press press = new Press();
+    write(press, text);
+    return press.load();
+  }
+
   /** A press with a framed colour area, cut with a trap. */
-  static WoodcutPress framed(int trap) {
-    WoodcutPress press = new WoodcutPress();
+  static Press framed(int trap) {
+    Press press = new Press();
     press.paint(3, 3, 6, 5, 2);
     press.paint(4, 4, 4, 3, 1);
     press.cut(trap);
+    return press;
+  }
+
+  /** A press amid its work: wear, a worn cell (0, 11), a full log, both snapshots, a full history, and a text. */
+  static Press busy() {
+    Press press = framed(1);
+    press.carve(0, 0, 11, 1);
+    press.take(0);
+    press.print(13);
+    press.paint(10, 9, 2, 1, 1);
+    press.take(1);
+    press.setPins(1, -1);
+    press.set(2, 3);
+    write(press, "2:16c;");
     return press;
   }
 }

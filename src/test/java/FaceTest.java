@@ -28,24 +28,18 @@ public final class FaceTest {
   }
 
   private static void promise01NewObject() {
-    WoodcutPress press = new WoodcutPress();
-    int[] due = {0, 50, 1, 0, 40, 2, 0, 0, 0, 0, 192, 0, 0, 0, 0, 0, 0, 0, 0, 0};
-    for (int what = 0; what < due.length; what++) {
-      CHECKS.same("count(" + what + ") of a new object", press.count(what), due[what]);
+    int[] counts = {0, 50, 1, 0, 40, 2, 0, 0, 0, 0, 192, 0, 0, 0, 0, 0, 0, 0, 0, 0};
+    java.util.List<Integer> seen = Looks.seen(new Press());
+    for (int i = 0; i < 20 + 192 * 5; i++) {
+      CHECKS.same("look " + i + " at a new object", seen.get(i), i < 20 ? counts[i] : 0);
     }
-    for (int y = 0; y < 12; y++) {
-      for (int x = 0; x < 16; x++) {
-        for (int what = 0; what <= 4; what++) {
-          CHECKS.same("cell of a new object", press.cell(x, y, what), 0);
-        }
-      }
-    }
+    Press press = new Press();
     CHECKS.same("proof of a new object", press.proof(0, 0), Checks.NONE);
     CHECKS.same("undo of a new object", press.undo(), Checks.ILLEGAL);
     CHECKS.same("restore of a new object", press.restore(0), Checks.ILLEGAL);
     CHECKS.same("restore of a new object", press.restore(1), Checks.ILLEGAL);
     CHECKS.same("clearText of a new object", press.clearText(), 0);
-    WoodcutPress other = new WoodcutPress();
+    Press other = new Press();
     other.paint(0, 0, 4, 4, 2);
     other.cut(0);
     CHECKS.same("another object's lines", press.count(12), 0);
@@ -164,9 +158,9 @@ public final class FaceTest {
 
   /** No call makes an object that is kept: the rows that the constructor makes serve all calls. */
   private static void roomStaysSmall() {
-    WoodcutPress press = Checks.framed(2);
+    Press press = Checks.framed(2);
     Room before = new Room();
-    before.enter(press);
+    before.enter(press.inside);
     for (int i = 0; i < 20; i++) {
       press.paint(i % 16, i % 12, 1, 1, i % 3);
       press.cut(i % 5);
@@ -179,7 +173,7 @@ public final class FaceTest {
       press.bestPins(2);
     }
     Room after = new Room();
-    after.enter(press);
+    after.enter(press.inside);
     CHECKS.same("objects", after.objects(), before.objects());
     CHECKS.same("elements", after.elements(), before.elements());
     CHECKS.holds("a press has at most 400 objects, not " + after.objects(), after.objects() <= 400);

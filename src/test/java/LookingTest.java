@@ -14,7 +14,7 @@ public final class LookingTest {
   }
 
   private static void promise15Count() {
-    WoodcutPress press = Checks.framed(1);
+    Press press = Checks.framed(1);
     press.set(0, 80);
     press.set(1, 2);
     press.set(2, -3);
@@ -41,7 +41,7 @@ public final class LookingTest {
   }
 
   private static void promise16Cell() {
-    WoodcutPress press = Checks.framed(1);
+    Press press = Checks.framed(1);
     press.carve(0, 0, 11, 1);
     press.carve(1, 15, 0, 1);
     press.set(3, 4);
@@ -66,7 +66,7 @@ public final class LookingTest {
   }
 
   private static void promise17Printed() {
-    WoodcutPress press = Checks.framed(1);
+    Press press = Checks.framed(1);
     CHECKS.same("nothing", press.printed(0, 0, 0, 0), 0);
     CHECKS.same("colour", press.printed(4, 4, 0, 0), 1);
     CHECKS.same("a line", press.printed(3, 3, 0, 0), 2);
@@ -85,7 +85,7 @@ public final class LookingTest {
   }
 
   private static void promise17PrintedEdges() {
-    WoodcutPress press = new WoodcutPress();
+    Press press = new Press();
     press.paint(0, 0, 16, 12, 1);
     press.cut(0);
     CHECKS.same("the far corner", press.printed(15, 11, 8, 8), 1);
@@ -101,7 +101,7 @@ public final class LookingTest {
   }
 
   private static void promise17PrintedRefused() {
-    WoodcutPress press = Checks.framed(1);
+    Press press = Checks.framed(1);
     CHECKS.invalid("x", press, new int[] {-1, 16, Integer.MIN_VALUE, Integer.MAX_VALUE}, v -> press.printed(v, 0, 0, 0));
     CHECKS.invalid("y", press, new int[] {-1, 12, Integer.MIN_VALUE, Integer.MAX_VALUE}, v -> press.printed(0, v, 0, 0));
     CHECKS.invalid("sx", press, new int[] {-9, 9, Integer.MIN_VALUE, Integer.MAX_VALUE}, v -> press.printed(0, 0, v, 0));
@@ -109,7 +109,7 @@ public final class LookingTest {
   }
 
   private static void promise18Proof() {
-    WoodcutPress press = Checks.framed(0);
+    Press press = Checks.framed(0);
     press.set(3, 1000);
     for (int i = 0; i < 5; i++) {
       press.setPins(i, -i);
@@ -131,7 +131,7 @@ public final class LookingTest {
   }
 
   private static void promise18ProofRefused() {
-    WoodcutPress press = Checks.framed(0);
+    Press press = Checks.framed(0);
     press.print(2);
     CHECKS.same("the oldest", press.proof(1, 0), 1);
     CHECKS.refused("not so many", press, Checks.NONE, () -> press.proof(2, 0));

@@ -16,7 +16,7 @@ public final class PictureTest {
   }
 
   private static void promise02Paint() {
-    WoodcutPress press = new WoodcutPress();
+    Press press = new Press();
     CHECKS.same("paint of white with white", press.paint(0, 0, 16, 12, 0), 0);
     CHECKS.same("an action without a change is recorded", press.count(18), 1);
     CHECKS.same("paint of the whole picture", press.paint(0, 0, 16, 12, 1), 192);
@@ -38,7 +38,7 @@ public final class PictureTest {
   }
 
   private static void promise02PaintRefused() {
-    WoodcutPress press = Checks.framed(1);
+    Press press = Checks.framed(1);
     CHECKS.invalid("x", press, new int[] {-1, 16, Integer.MIN_VALUE, Integer.MAX_VALUE}, v -> press.paint(v, 0, 1, 1, 0));
     CHECKS.invalid("y", press, new int[] {-1, 12, Integer.MIN_VALUE, Integer.MAX_VALUE}, v -> press.paint(0, v, 1, 1, 0));
     CHECKS.invalid("width", press, new int[] {0, -1, 17, Integer.MAX_VALUE, Integer.MIN_VALUE}, v -> press.paint(0, 0, v, 1, 0));
@@ -49,7 +49,7 @@ public final class PictureTest {
   }
 
   private static void promise03Cut() {
-    WoodcutPress press = new WoodcutPress();
+    Press press = new Press();
     CHECKS.same("cut of a white picture", press.cut(4), 0);
     press.paint(0, 0, 3, 3, 2);
     press.carve(0, 10, 10, 1);
@@ -68,7 +68,7 @@ public final class PictureTest {
 
   private static void promise03CutTraps() {
     // One colour cell at the left end of a line that turns, and a gap in it.
-    WoodcutPress press = new WoodcutPress();
+    Press press = new Press();
     press.paint(0, 0, 1, 1, 1);
     press.paint(1, 0, 2, 1, 2);
     press.paint(2, 1, 1, 2, 2);
@@ -104,12 +104,12 @@ public final class PictureTest {
   }
 
   private static void promise03CutRefused() {
-    WoodcutPress press = Checks.framed(1);
+    Press press = Checks.framed(1);
     CHECKS.invalid("trap", press, new int[] {-1, 5, Integer.MIN_VALUE, Integer.MAX_VALUE}, press::cut);
   }
 
   private static void promise04Carve() {
-    WoodcutPress press = new WoodcutPress();
+    Press press = new Press();
     CHECKS.same("carve of the line block", press.carve(0, 15, 11, 1), 0);
     CHECKS.same("it prints then", press.cell(15, 11, 1), 1);
     CHECKS.same("the colour block does not", press.cell(15, 11, 2), 0);
@@ -139,7 +139,7 @@ public final class PictureTest {
   }
 
   private static void promise04CarveRefused() {
-    WoodcutPress press = Checks.framed(1);
+    Press press = Checks.framed(1);
     press.print(2);
     CHECKS.invalid("block", press, new int[] {-1, 2, Integer.MAX_VALUE}, v -> press.carve(v, 3, 3, 0));
     CHECKS.invalid("x", press, new int[] {-1, 16, Integer.MIN_VALUE}, v -> press.carve(0, v, 3, 0));
@@ -148,7 +148,7 @@ public final class PictureTest {
   }
 
   private static void promise05Plug() {
-    WoodcutPress press = Checks.framed(1);
+    Press press = Checks.framed(1);
     press.set(3, 2);
     press.print(1);
     CHECKS.same("all lines are worn", press.count(15), 18);
@@ -168,7 +168,7 @@ public final class PictureTest {
   }
 
   private static void promise05PlugRefused() {
-    WoodcutPress press = Checks.framed(1);
+    Press press = Checks.framed(1);
     press.set(3, 3);
     press.print(1);
     CHECKS.same("wear as great as the hardness", press.cell(3, 3, 3), 3);

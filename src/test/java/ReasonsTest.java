@@ -17,7 +17,7 @@ public final class ReasonsTest {
   }
 
   private static void promise19Faults() {
-    WoodcutPress press = Checks.framed(0);
+    Press press = Checks.framed(0);
     CHECKS.same("gaps without a shift", press.faults(0, 0, 0), 0);
     CHECKS.same("gaps one to the right", press.faults(1, 0, 0), 3);
     CHECKS.same("spills one to the right", press.faults(1, 0, 1), 0);
@@ -41,14 +41,14 @@ public final class ReasonsTest {
   }
 
   private static void promise19FaultsRefused() {
-    WoodcutPress press = Checks.framed(0);
+    Press press = Checks.framed(0);
     CHECKS.invalid("sx", press, new int[] {-9, 9, Integer.MIN_VALUE, Integer.MAX_VALUE}, v -> press.faults(v, 0, 0));
     CHECKS.invalid("sy", press, new int[] {-9, 9, Integer.MIN_VALUE, Integer.MAX_VALUE}, v -> press.faults(0, v, 0));
     CHECKS.invalid("what", press, new int[] {-1, 3, Integer.MIN_VALUE, Integer.MAX_VALUE}, v -> press.faults(0, 0, v));
   }
 
   private static void promise20Why() {
-    WoodcutPress press = Checks.framed(1);
+    Press press = Checks.framed(1);
     CHECKS.same("a line", press.why(3, 3), 0);
     CHECKS.same("a line with colour", press.why(4, 3), 0);
     CHECKS.same("colour", press.why(4, 4), 0);
@@ -64,7 +64,7 @@ public final class ReasonsTest {
   }
 
   private static void promise20WhyOrder() {
-    WoodcutPress press = new WoodcutPress();
+    Press press = new Press();
     // Columns: 0 white, 1 colour, 2 line; rows: 0 nothing, 1 colour, 2 a line, 3 both, 4 worn, 5 worn with colour.
     press.paint(1, 0, 1, 6, 1);
     press.paint(2, 0, 1, 6, 2);
@@ -90,7 +90,7 @@ public final class ReasonsTest {
   }
 
   private static void promise21Tolerance() {
-    WoodcutPress white = new WoodcutPress();
+    Press white = new Press();
     CHECKS.same("a white picture", white.tolerance(), 4);
     white.paint(5, 5, 1, 1, 2);
     CHECKS.same("blocks that are not cut", white.tolerance(), Checks.NONE);
@@ -100,7 +100,7 @@ public final class ReasonsTest {
     white.cut(0);
     CHECKS.same("without a trap", white.tolerance(), 0);
     // A colour cell amid an ever wider square of the colour block.
-    WoodcutPress press = new WoodcutPress();
+    Press press = new Press();
     press.paint(7, 5, 1, 1, 1);
     for (int r = 0; r <= 5; r++) {
       for (int y = 5 - r; y <= 5 + r; y++) {
@@ -117,7 +117,7 @@ public final class ReasonsTest {
     press.carve(1, 7, 5, 0);
     CHECKS.same("gaps without a shift", press.tolerance(), Checks.NONE);
     // Worn lines count as they are.
-    WoodcutPress worn = Checks.framed(4);
+    Press worn = Checks.framed(4);
     CHECKS.same("a frame of one", worn.tolerance(), 1);
     worn.set(3, 1);
     worn.print(1);
@@ -128,7 +128,7 @@ public final class ReasonsTest {
 
   private static void promise22TrapFor() {
     // A colour cell amid lines: the corner of a square of r is 2r steps away.
-    WoodcutPress press = new WoodcutPress();
+    Press press = new Press();
     press.paint(0, 0, 16, 12, 2);
     press.paint(7, 5, 1, 1, 1);
     CHECKS.same("trapFor(0)", press.trapFor(0), 0);
@@ -157,7 +157,7 @@ public final class ReasonsTest {
   }
 
   private static void promise23BestPins() {
-    WoodcutPress press = Checks.framed(0);
+    Press press = Checks.framed(0);
     press.set(0, 100);
     press.set(1, 3);
     press.set(2, -2);
@@ -174,7 +174,7 @@ public final class ReasonsTest {
     CHECKS.same("py plus 4 then", press.bestPins(1), 5);
     CHECKS.invalid("what", press, new int[] {-1, 3, Integer.MIN_VALUE, Integer.MAX_VALUE}, press::bestPins);
     // The farthest pins of either side.
-    WoodcutPress far = new WoodcutPress();
+    Press far = new Press();
     far.paint(9, 9, 1, 1, 1);
     far.carve(1, 5, 5, 1);
     CHECKS.same("px plus 4, far", far.bestPins(0), 8);
@@ -186,7 +186,7 @@ public final class ReasonsTest {
     CHECKS.same("py plus 4, far up", far.bestPins(1), 0);
     CHECKS.same("gaps and spills, far", far.bestPins(2), 0);
     // Spills count as gaps do.
-    WoodcutPress spilt = new WoodcutPress();
+    Press spilt = new Press();
     spilt.paint(5, 5, 1, 1, 1);
     spilt.carve(1, 5, 5, 1);
     spilt.carve(1, 6, 5, 1);
@@ -196,7 +196,7 @@ public final class ReasonsTest {
   }
 
   private static void promise23BestPinsTies() {
-    WoodcutPress press = new WoodcutPress();
+    Press press = new Press();
     CHECKS.same("the least px of all", press.bestPins(0), 0);
     CHECKS.same("the least py of all", press.bestPins(1), 0);
     CHECKS.same("nothing is wrong", press.bestPins(2), 0);
@@ -210,7 +210,7 @@ public final class ReasonsTest {
     CHECKS.same("py plus 4", press.bestPins(1), 0);
     CHECKS.same("spills", press.bestPins(2), 12 * 8);
     // One cell of the colour block covers one of three colour cells with (-1, 2), (-1, -2) and (2, -3).
-    WoodcutPress tie = new WoodcutPress();
+    Press tie = new Press();
     tie.paint(7, 8, 1, 1, 1);
     tie.paint(7, 4, 1, 1, 1);
     tie.paint(10, 3, 1, 1, 1);
@@ -221,7 +221,7 @@ public final class ReasonsTest {
   }
 
   private static void promise24PrintsLeft() {
-    WoodcutPress press = new WoodcutPress();
+    Press press = new Press();
     CHECKS.same("no line block", press.printsLeft(), Checks.NONE);
     press.carve(0, 5, 5, 1);
     CHECKS.same("a lone cell at hardness 40", press.printsLeft(), 9);
@@ -245,14 +245,14 @@ public final class ReasonsTest {
     CHECKS.same("a full block at hardness 999", press.printsLeft(), 334);
     press.set(3, 998);
     CHECKS.same("a full block at hardness 998", press.printsLeft(), 333);
-    WoodcutPress corner = new WoodcutPress();
+    Press corner = new Press();
     corner.carve(0, 0, 0, 1);
     CHECKS.same("a lone cell in the corner", corner.printsLeft(), 9);
-    WoodcutPress far = new WoodcutPress();
+    Press far = new Press();
     far.carve(0, 15, 11, 1);
     CHECKS.same("a lone cell in the far corner", far.printsLeft(), 9);
     // All but the middle of five by five cells are carved anew: it wears by 1 alone, and is worn first.
-    WoodcutPress middle = new WoodcutPress();
+    Press middle = new Press();
     middle.paint(2, 2, 5, 5, 2);
     middle.cut(0);
     middle.set(3, 12);
@@ -276,10 +276,10 @@ public final class ReasonsTest {
   }
 
   private static void nothingChanges() {
-    WoodcutPress press = Checks.framed(2);
+    Press press = Checks.framed(2);
     press.setPins(1, -1);
     press.print(3);
-    java.util.List<Integer> before = Checks.seen(press);
+    java.util.List<Integer> before = Looks.whole(press);
     press.printed(4, 4, 3, 3);
     press.faults(2, 2, 0);
     press.why(4, 4);
@@ -287,6 +287,6 @@ public final class ReasonsTest {
     press.trapFor(3);
     press.bestPins(2);
     press.printsLeft();
-    CHECKS.holds("looking changes nothing", before.equals(Checks.seen(press)));
+    CHECKS.holds("looking changes nothing", before.equals(Looks.whole(press)));
   }
 }

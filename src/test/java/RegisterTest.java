@@ -18,7 +18,7 @@ public final class RegisterTest {
   }
 
   private static void promise06SetPins() {
-    WoodcutPress press = Checks.framed(0);
+    Press press = Checks.framed(0);
     CHECKS.same("no gaps at first", press.setPins(0, 0), 0);
     CHECKS.same("a step to the right", press.setPins(1, 0), 3);
     CHECKS.same("px", press.count(6), 1);
@@ -35,14 +35,14 @@ public final class RegisterTest {
   }
 
   private static void promise06SetPinsRefused() {
-    WoodcutPress press = Checks.framed(1);
+    Press press = Checks.framed(1);
     press.setPins(2, -3);
     CHECKS.invalid("px", press, new int[] {-5, 5, Integer.MIN_VALUE, Integer.MAX_VALUE}, v -> press.setPins(v, 0));
     CHECKS.invalid("py", press, new int[] {-5, 5, Integer.MIN_VALUE, Integer.MAX_VALUE}, v -> press.setPins(0, v));
   }
 
   private static void promise07Set() {
-    WoodcutPress press = new WoodcutPress();
+    Press press = new Press();
     int[] first = {50, 1, 0, 40, 2};
     int[] least = {0, -4, -4, 1, 0};
     int[] greatest = {100, 4, 4, 1000, 10};
@@ -57,7 +57,7 @@ public final class RegisterTest {
   }
 
   private static void promise07SetRefused() {
-    WoodcutPress press = new WoodcutPress();
+    Press press = new Press();
     int[] below = {-1, -5, -5, 0, -1};
     int[] above = {101, 5, 5, 1001, 11};
     for (int what = 0; what < 5; what++) {
@@ -69,7 +69,7 @@ public final class RegisterTest {
   }
 
   private static void promise07RegisterRoundsTowardZero() {
-    WoodcutPress press = new WoodcutPress();
+    Press press = new Press();
     press.set(1, 1);
     press.set(2, -3);
     press.set(0, 1);
@@ -92,7 +92,7 @@ public final class RegisterTest {
   }
 
   private static void promise08PrintFaults() {
-    WoodcutPress press = new WoodcutPress();
+    Press press = new Press();
     press.paint(0, 0, 1, 1, 1);
     press.paint(1, 0, 1, 1, 2);
     press.carve(1, 0, 0, 1);
@@ -120,7 +120,7 @@ public final class RegisterTest {
   }
 
   private static void promise08PrintWear() {
-    WoodcutPress press = new WoodcutPress();
+    Press press = new Press();
     press.paint(0, 0, 3, 3, 2);
     press.paint(15, 11, 1, 1, 2);
     press.cut(0);
@@ -138,7 +138,7 @@ public final class RegisterTest {
   }
 
   private static void promise08PrintWornCells() {
-    WoodcutPress press = new WoodcutPress();
+    Press press = new Press();
     press.paint(0, 0, 3, 1, 2);
     press.cut(0);
     press.set(3, 7);
@@ -160,7 +160,7 @@ public final class RegisterTest {
   }
 
   private static void promise08PrintDamp() {
-    WoodcutPress press = Checks.framed(0);
+    Press press = Checks.framed(0);
     press.set(0, 100);
     press.set(1, 4);
     press.set(4, 10);
@@ -182,7 +182,7 @@ public final class RegisterTest {
   }
 
   private static void promise08PrintLimit() {
-    WoodcutPress press = new WoodcutPress();
+    Press press = new Press();
     for (int i = 0; i < 49; i++) {
       CHECKS.same("a hundred prints", press.print(100), 0);
     }
@@ -199,7 +199,7 @@ public final class RegisterTest {
   }
 
   private static void promise08PrintRefused() {
-    WoodcutPress press = Checks.framed(1);
+    Press press = Checks.framed(1);
     press.print(3);
     CHECKS.invalid("prints", press, new int[] {0, -1, 101, Integer.MIN_VALUE, Integer.MAX_VALUE}, press::print);
     CHECKS.same("one action", press.count(18), 4);

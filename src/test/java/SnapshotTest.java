@@ -16,7 +16,7 @@ public final class SnapshotTest {
   }
 
   private static void promise09Take() {
-    WoodcutPress press = Checks.framed(1);
+    Press press = Checks.framed(1);
     CHECKS.same("take", press.take(1), 30);
     CHECKS.same("snapshots", press.count(17), 1);
     CHECKS.same("take is recorded", press.count(18), 4);
@@ -36,7 +36,7 @@ public final class SnapshotTest {
     // An undo brings back what was in the slot.
     for (int slot = 0; slot <= 1; slot++) {
       int one = slot;
-      WoodcutPress again = new WoodcutPress();
+      Press again = new Press();
       again.paint(0, 0, 3, 1, 1);
       again.take(slot);
       again.paint(0, 0, 9, 1, 2);
@@ -49,16 +49,16 @@ public final class SnapshotTest {
       CHECKS.same("undo", again.undo(), 1);
       CHECKS.refused("an empty slot again", again, Checks.ILLEGAL, () -> again.restore(one));
     }
-    WoodcutPress empty = new WoodcutPress();
+    Press empty = new Press();
     CHECKS.same("take of a white picture", empty.take(0), 0);
   }
 
   private static void promise10Restore() {
-    WoodcutPress press = Checks.framed(1);
+    Press press = Checks.framed(1);
     press.print(2);
     press.carve(1, 15, 11, 1);
     press.take(0);
-    List<Integer> blocks = cells(press);
+    List<Integer> blocks = Looks.cells(press);
     press.paint(0, 0, 16, 12, 2);
     press.cut(0);
     press.set(3, 3);
@@ -71,11 +71,11 @@ public final class SnapshotTest {
     CHECKS.same("the log stays", press.count(16), 7);
     CHECKS.same("the snapshot stays", press.count(17), 1);
     press.set(3, 40);
-    CHECKS.holds("picture, blocks and wear are back", blocks.equals(cells(press)));
+    CHECKS.holds("picture, blocks and wear are back", blocks.equals(Looks.cells(press)));
     press.print(5);
     press.carve(0, 5, 5, 1);
     CHECKS.same("restore again", press.restore(0), 30);
-    CHECKS.holds("picture, blocks and wear are back again", blocks.equals(cells(press)));
+    CHECKS.holds("picture, blocks and wear are back again", blocks.equals(Looks.cells(press)));
     // Taking again goes in place of what was there, and the slots are apart.
     press.paint(0, 0, 16, 12, 0);
     press.take(0);
@@ -87,7 +87,7 @@ public final class SnapshotTest {
   }
 
   private static void promise10RestoreRefused() {
-    WoodcutPress press = Checks.framed(1);
+    Press press = Checks.framed(1);
     CHECKS.refused("an empty slot", press, Checks.ILLEGAL, () -> press.restore(0));
     press.take(0);
     CHECKS.refused("the other slot", press, Checks.ILLEGAL, () -> press.restore(1));
@@ -95,7 +95,7 @@ public final class SnapshotTest {
   }
 
   private static void promise11UndoOfEachAction() {
-    WoodcutPress press = Checks.framed(1);
+    Press press = Checks.framed(1);
     press.set(3, 5);
     press.print(2);
     press.take(1);
@@ -114,17 +114,17 @@ public final class SnapshotTest {
     actions.add(() -> press.restore(1));
     actions.add(press::load);
     for (int i = 0; i < actions.size(); i++) {
-      List<Integer> before = Checks.seenState(press);
+      List<Integer> before = Looks.seenState(press);
       int states = press.count(18);
       actions.get(i).run();
       CHECKS.same("action " + i + " is recorded", press.count(18), Math.min(5, states + 1));
       CHECKS.same("undo of action " + i, press.undo(), Math.min(4, states));
-      CHECKS.holds("action " + i + " is undone", before.equals(Checks.seenState(press)));
+      CHECKS.holds("action " + i + " is undone", before.equals(Looks.seenState(press)));
     }
   }
 
   private static void promise11UndoKeepsFive() {
-    WoodcutPress press = new WoodcutPress();
+    Press press = new Press();
     CHECKS.refused("nothing to undo", press, Checks.ILLEGAL, press::undo);
     for (int i = 1; i <= 9; i++) {
       press.paint(0, 0, i, 1, 1);
@@ -146,7 +146,7 @@ public final class SnapshotTest {
   }
 
   private static void promise11UndoLeavesText() {
-    WoodcutPress press = new WoodcutPress();
+    Press press = new Press();
     press.paint(0, 0, 1, 1, 1);
     Checks.write(press, "3:16l;");
     press.undo();
@@ -158,9 +158,5 @@ public final class SnapshotTest {
     press.append(49);
     press.clearText();
     CHECKS.same("text calls are no actions", press.count(18), 0);
-  }
-
-  private static List<Integer> cells(WoodcutPress press) {
-    return new ArrayList<>(Checks.seen(press).subList(20, 20 + 192 * 5));
   }
 }

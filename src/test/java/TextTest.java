@@ -14,7 +14,7 @@ public final class TextTest {
   }
 
   private static void promise12Append() {
-    WoodcutPress press = new WoodcutPress();
+    Press press = new Press();
     CHECKS.same("the least character", press.append(1), 1);
     CHECKS.same("the greatest character", press.append(255), 2);
     CHECKS.invalid("character", press, new int[] {0, -1, 256, Integer.MIN_VALUE, Integer.MAX_VALUE}, press::append);
@@ -27,7 +27,7 @@ public final class TextTest {
   }
 
   private static void promise13ClearText() {
-    WoodcutPress press = new WoodcutPress();
+    Press press = new Press();
     CHECKS.same("an empty text", press.clearText(), 0);
     Checks.write(press, "1:3w");
     CHECKS.same("a text of four", press.clearText(), 4);
@@ -38,7 +38,7 @@ public final class TextTest {
   }
 
   private static void promise14Load() {
-    WoodcutPress press = Checks.framed(1);
+    Press press = Checks.framed(1);
     press.paint(0, 0, 16, 1, 2);
     CHECKS.same("an empty text", Checks.load(press, ""), 0);
     CHECKS.same("it is an action, too", press.count(18), 5);
@@ -63,7 +63,7 @@ public final class TextTest {
   }
 
   private static void promise14LoadOrder() {
-    WoodcutPress press = new WoodcutPress();
+    Press press = new Press();
     CHECKS.same("a row told twice", Checks.load(press, "5:16l;5:8c8w;"), 2);
     CHECKS.same("the later one counts", press.count(12), 0);
     CHECKS.same("the later one counts", press.count(11), 8);
@@ -85,27 +85,25 @@ public final class TextTest {
   }
 
   private static void promise14LoadLongest() {
-    WoodcutPress press = new WoodcutPress();
     StringBuilder text = new StringBuilder();
     for (int i = 0; i < 23; i++) {
       text.append(i % 10).append(":16l;");
     }
     text.append("  ");
-    CHECKS.same("140 characters", Checks.load(press, text.toString()), 23);
+    CHECKS.same("140 characters", Checks.loadAnew(text.toString()), 23);
     String missing = text.substring(0, 138) + "1:";
-    CHECKS.same("a full text that ends too early", Checks.load(press, missing), -2140);
+    CHECKS.same("a full text that ends too early", Checks.loadAnew(missing), -2140);
     StringBuilder digits = new StringBuilder("1:");
     while (digits.length() < 140) {
       digits.append('9');
     }
-    CHECKS.same("a number that is far too great", Checks.load(press, digits.toString()), -2002);
+    CHECKS.same("a number that is far too great", Checks.loadAnew(digits.toString()), -2002);
     String overInt = "0:4294967297w15w;";
-    CHECKS.same("a number that an int would wrap round to 1", Checks.load(press, overInt), -2002);
-    CHECKS.same("a row that an int would wrap round to 0", Checks.load(press, "4294967296:16w;"), -2000);
+    CHECKS.same("a number that an int would wrap round to 1", Checks.loadAnew(overInt), -2002);
+    CHECKS.same("a row that an int would wrap round to 0", Checks.loadAnew("4294967296:16w;"), -2000);
   }
 
   private static void promise14LoadErrors() {
-    WoodcutPress press = Checks.framed(1);
     String[] texts = {"0", "12:16w;", "12", "0:", "0:16;", "0:17w;", "0:17", "0:016w;", "0:0w;", "0:0", "00:16w;", "01:16w;",
         "0:8w9l;", "0:8w9", "0:8w8l", "0:8w8l1c;", "0:8w8l0c;", "0:8w8lc;", "0:8w7l;", "0:16x;", "0:16w;0:;", "#", ";", ":",
         "0:;", "w", "-1:16w;", "0;16w;", "0 :16w", "1 1:16w;", "0:1 6w;", "0:16 w ", " 0: 16w; x", "0:16W;", "0::16w;",
@@ -118,6 +116,7 @@ public final class TextTest {
         5, 2, 0, 13, 0, 4, 8, 0};
     CHECKS.same("as many answers as texts", due.length, texts.length);
     for (int i = 0; i < texts.length; i++) {
+      Press press = Checks.busy();
       press.clearText();
       Checks.write(press, texts[i]);
       CHECKS.refused("load of \"" + texts[i] + "\"", press, -2000 - due[i], press::load);
@@ -128,15 +127,14 @@ public final class TextTest {
   /** A good text with one sign put in another's place: the error stands there, or where it shows. */
   private static void promise14EverySignOnEveryPlace() {
     String good = " 7 : 6c 10 l ; ";
-    WoodcutPress press = new WoodcutPress();
     for (int place = 0; place < good.length(); place++) {
       for (int sign = 1; sign <= 255; sign++) {
         if (" 0123456789:;wcl".indexOf(sign) < 0) {
           String text = good.substring(0, place) + (char) sign + good.substring(place + 1);
-          CHECKS.same("sign " + sign + " at " + place, Checks.load(press, text), -2000 - place);
+          CHECKS.same("sign " + sign + " at " + place, Checks.loadAnew(text), -2000 - place);
         }
       }
     }
-    CHECKS.same("the good text", Checks.load(press, good), 1);
+    CHECKS.same("the good text", Checks.loadAnew(good), 1);
   }
 }
