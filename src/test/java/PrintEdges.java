@@ -403,7 +403,20 @@ final class PrintEdges {
     press.set(1, 4);
     edge.same("the drift of the damp counts", press.setPins(-4, 0), 0);
     edge.same("as far as can be", press.setPins(4, 0), 192 - 8 * 12);
-    edge.same("no spills are counted", press.paint(0, 0, 16, 12, 0) - 192 + press.setPins(0, 0), 0);
+    press.paint(0, 0, 16, 12, 0);
+    edge.same("no spills are counted", press.setPins(0, 0), 0);
+    Press worn = Checks.framed(0);
+    worn.set(3, 3);
+    worn.print(1);
+    edge.same("wear as great as the hardness makes no gaps", worn.setPins(0, 0), 0);
+    worn.set(3, 2);
+    edge.same("worn lines are gaps", worn.setPins(0, 0), 18);
+    worn.plug(3, 3);
+    edge.same("one less when it is plugged", worn.setPins(0, 0), 17);
+    worn.cut(0);
+    edge.same("none behind a cut", worn.setPins(0, 0), 0);
+    worn.carve(0, 3, 3, 0);
+    edge.same("a line that is carved away", worn.setPins(0, 0), 1);
   }
 
   private void setArguments() {

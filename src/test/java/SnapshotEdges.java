@@ -173,11 +173,15 @@ final class SnapshotEdges {
     press.take(1);
     edge.same("a white picture", press.restore(0), 0);
     edge.same("a full picture", press.restore(1), 192);
-    Press undone = new Press();
-    undone.take(1);
-    undone.undo();
-    edge.refused("a slot that is empty again", undone, Checks.ILLEGAL, () -> undone.restore(1));
-    edge.refused("a slot out of range comes first", undone, Checks.INVALID, () -> undone.restore(2));
+    for (int slot = 0; slot <= 1; slot++) {
+      int one = slot;
+      Press undone = new Press();
+      undone.take(slot);
+      undone.undo();
+      edge.same("no snapshot", undone.count(17), 0);
+      edge.refused("a slot that is empty again", undone, Checks.ILLEGAL, () -> undone.restore(one));
+      edge.refused("a slot out of range comes first", undone, Checks.INVALID, () -> undone.restore(2));
+    }
   }
 
   private void atMostFiveStates() {
